@@ -100,9 +100,6 @@ public final class LearningAdvisor {
         if (!isWithin(difficulty, 0, MAX_DIFFICULTY)) {
             return BAD_ARGUMENT;
         }
-        if (course.items() >= MAX_ITEMS) {
-            return FULL;
-        }
         return course.put(skill, difficulty);
     }
 
@@ -833,6 +830,7 @@ public final class LearningAdvisor {
             return item >= 0 && item < items;
         }
 
+        /** The number of the new item; FULL if there is no place for one. */
         int put(int skill, int difficulty) {
             if (items >= MAX_ITEMS) {
                 return FULL;
@@ -854,15 +852,19 @@ public final class LearningAdvisor {
 
     /** What answers and days have made of a skill. */
     private static final class SkillState {
-        private int evidenceFor = 0;
-        private int evidenceAgainst = 0;
-        private int interval = 1;
-        private int dueDay = NONE;
-        private int practiceDay = NONE;
-        private int givenFor = 0;
-        private int givenAgainst = 0;
-        private int cutOff = 0;
-        private int decayed = 0;
+        private int evidenceFor;
+        private int evidenceAgainst;
+        private int interval;
+        private int dueDay;
+        private int practiceDay;
+        private int givenFor;
+        private int givenAgainst;
+        private int cutOff;
+        private int decayed;
+
+        SkillState() {
+            clear();
+        }
 
         void clear() {
             evidenceFor = 0;
@@ -995,7 +997,7 @@ public final class LearningAdvisor {
         private final int[] answerDays = new int[MAX_ITEMS];
         /** Stands for a skill that does not exist, so that nobody gets a null. */
         private final SkillState noState = new SkillState();
-        private int day = 0;
+        private int day;
 
         Progress(Course course) {
             this.course = course;

@@ -158,6 +158,7 @@ public final class CurriculumTest {
 
     private static void onlyNeededParenthesesAreWritten() {
         writes("7;70", "7;70");
+        writes("9;10;11;99", "9;10;11;99");
         writes("1;2=(0)", "1;2=0");
         writes("1;2=(((((0)))))", "1;2=0");
         writes("1;2;3=(0|1)", "1;2;3=0|1");
@@ -171,6 +172,18 @@ public final class CurriculumTest {
         writes("1;2;3=((0|(1|0)))&1", "1;2;3=(0|1|0)&1");
         writes("1;2;3=(((0&1)))&1", "1;2;3=0&1&1");
         writes("1;2;3=0&(0|1&(0|1&(0|1&(0|1&(0|1)))))", "1;2;3=0&(0|1&(0|1&(0|1&(0|1&(0|1)))))");
+    }
+
+    private static void theDeepestExpressionIsWhole() {
+        String deep = "1;99;60;50=1|0&(1|0&(1|0&(1|0&(1|0&(1|0&2)))))";
+        writes(deep, deep);
+        LearningAdvisor x = Advisors.withItems(deep);
+        CHECK.due("skill(3, 7)", x.skill(3, 7), 7);
+        CHECK.due("skill(3, 6)", x.skill(3, 6), 0);
+        x.answer(2, 1);
+        CHECK.due("skill(3, 6)", x.skill(3, 6), 1);
+        LearningAdvisor y = Advisors.withItems("1;99;60;60=0&(0&(0&(0&(0&(0&2|1)|1)|1)|1)|1)|1");
+        CHECK.due("explain(3)", Advisors.explained(y, 3), "3:3 6:2");
     }
 
     private static void theWrittenTextStaysUntilTheNext() {
@@ -197,6 +210,7 @@ public final class CurriculumTest {
         readingDiscardsWhatWas();
         anErrorChangesNothingButTheText();
         onlyNeededParenthesesAreWritten();
+        theDeepestExpressionIsWhole();
         theWrittenTextStaysUntilTheNext();
         CHECK.end();
     }
