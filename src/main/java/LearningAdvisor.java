@@ -397,7 +397,7 @@ public final class LearningAdvisor {
 
     private int answerMixed(Progress learner, int most) {
         for (int given = 0; given < most; given++) {
-            int advised = Advice.byWay(WAY_MIXED, course, learner);
+            int advised = Advice.mixed(course, learner);
             if (advised == NONE) {
                 return given;
             }
@@ -1231,7 +1231,7 @@ public final class LearningAdvisor {
             return best;
         }
 
-        private static int mixed(Course course, Progress progress) {
+        static int mixed(Course course, Progress progress) {
             int item = forReview(course, progress);
             if (item == NONE) {
                 item = forLearning(course, progress);
