@@ -268,17 +268,21 @@ public final class AdviceBoundsTest {
         }
     }
 
+    /** Each way would advise another item: skill 2 is due, skill 1 is to learn, skill 0 has item 0. */
     private static void mixedFallsFromReviewToLearningToDiagnosis() {
-        LearningAdvisor x = Advisors.withItems("60;60;40");
-        CHECK.due("nothing due: learning", x.advise(3), 0);
-        x.answer(1, 0);
+        LearningAdvisor x = Advisors.withItems("50;60;20");
+        CHECK.due("nothing due: learning", x.advise(3), 1);
+        x.answer(2, 0);
         x.nextDay(1);
-        CHECK.due("review", x.advise(3), 1);
-        x.answer(1, 1);
-        CHECK.due("nothing due: learning", x.advise(3), 0);
-        x.answer(0, 1);
-        CHECK.due("nothing to learn: diagnosis", x.advise(3), 2);
+        CHECK.due("review", x.advise(3), 2);
+        CHECK.due("advise(0)", x.advise(0), 2);
+        CHECK.due("advise(1)", x.advise(1), 1);
+        CHECK.due("advise(2)", x.advise(2), 0);
         x.answer(2, 1);
+        CHECK.due("nothing due: learning", x.advise(3), 1);
+        x.answer(1, 1);
+        CHECK.due("nothing to learn: diagnosis", x.advise(3), 0);
+        x.answer(0, 1);
         CHECK.due("nothing open", x.advise(3), -1);
     }
 

@@ -149,6 +149,28 @@ public final class EvidenceBoundsTest {
         accountIs(x, 0, 480, 0, 0, 3);
     }
 
+    private static void readingBeginsTheAccountsAgain() {
+        LearningAdvisor x = Advisors.withTwelve("50;50=0", 1);
+        Advisors.answerTimes(x, 1, 31);
+        x.nextDay(60);
+        x.nextDay(10);
+        Advisors.answerTimes(x, 0, 1);
+        CHECK.due("account(1, 2)", x.account(1, 2), 16);
+        CHECK.due("account(1, 3)", x.account(1, 3) > 0 ? 1 : 0, 1);
+        Advisors.read(x, "50;50=0");
+        for (int skill = 0; skill < 2; skill++) {
+            accountIs(x, skill, 0, 0, 0, 0);
+            skillIs(x, skill, 0, 0);
+            CHECK.due("interval", x.skill(skill, 2), 1);
+            CHECK.due("due day", x.skill(skill, 3), -1);
+            CHECK.due("practice day", x.skill(skill, 4), -1);
+        }
+        CHECK.due("day", x.count(2), 0);
+        CHECK.due("items", x.count(1), 0);
+        CHECK.due("right answers", x.count(3), 0);
+        CHECK.due("wrong answers", x.count(4), 0);
+    }
+
     /** The last pass mark at which a skill with such answers is mastered, and the first at which it is not. */
     private static void aSkillIsMasteredFromItsPassMarkOn() {
         for (int right = 0; right <= 12; right++) {
@@ -405,6 +427,24 @@ public final class EvidenceBoundsTest {
         CHECK.due("answer(0, 1) on the day before again", x.answer(0, 1), -4);
     }
 
+    private static void rightAndWrongAnswersAreCountedFromTheFirstItemToTheLast() {
+        LearningAdvisor x = Advisors.withTwelve("50", 0);
+        CHECK.due("count(3), none", x.count(3), 0);
+        CHECK.due("count(4), none", x.count(4), 0);
+        x.answer(0, 0);
+        CHECK.due("count(4), the first item", x.count(4), 1);
+        x.answer(11, 1);
+        CHECK.due("count(3), the last item", x.count(3), 1);
+        x.nextDay(1);
+        x.answer(0, 1);
+        x.answer(11, 0);
+        x.answer(5, 0);
+        CHECK.due("count(3)", x.count(3), 2);
+        CHECK.due("count(4)", x.count(4), 3);
+        x.undo();
+        CHECK.due("count(4), undone", x.count(4), 2);
+    }
+
     private static void answersThatWereUndoneDoNotCount() {
         LearningAdvisor x = Advisors.withItems("50");
         x.answer(0, 1);
@@ -464,6 +504,7 @@ public final class EvidenceBoundsTest {
         evidenceForARequiredSkillIsAtMost480();
         evidenceAgainstARequiredSkillIsAtMost480();
         aPartOfSmallEvidenceIsCutOff();
+        readingBeginsTheAccountsAgain();
         aSkillIsMasteredFromItsPassMarkOn();
         anAnswerTellsWhetherTheSkillIsMasteredThen();
         theGreatestAndTheLeastMastery();
@@ -480,6 +521,7 @@ public final class EvidenceBoundsTest {
         aRightAnswerHelpsEachRequiredSkillOnce();
         aWrongAnswerBlamesRequiredSkillsThatAreNotMastered();
         anItemIsAnsweredOnceADay();
+        rightAndWrongAnswersAreCountedFromTheFirstItemToTheLast();
         answersThatWereUndoneDoNotCount();
         prerequisitesAreSetsOfBits();
         readySkillsAreCountedFromNoneOfTheirPartsToAll();

@@ -402,6 +402,23 @@ public final class LogBoundsTest {
         CHECK.due("item(5, 3)", x.item(5, 3), 0);
     }
 
+    private static void skillsAndDifficultiesOfItemsAreKept() {
+        LearningAdvisor x = Advisors.of("60;60=0;60");
+        for (int item = 0; item < 12; item++) {
+            x.addItem(item % 3, item % 5);
+        }
+        x.save();
+        Advisors.read(x, "50;50");
+        for (int item = 0; item < 12; item++) {
+            x.addItem(1, 4 - item % 5);
+        }
+        x.restore();
+        for (int item = 0; item < 12; item++) {
+            CHECK.due("item(" + item + ", 0)", x.item(item, 0), item % 3);
+            CHECK.due("item(" + item + ", 1)", x.item(item, 1), item % 5);
+        }
+    }
+
     private static void textsAndExplanationAreLeftAsTheyAre() {
         LearningAdvisor x = Advisors.withItems("60;60=0");
         Advisors.type(x, "12");
@@ -446,6 +463,7 @@ public final class LogBoundsTest {
         theSnapshotIsKept();
         aLaterSnapshotReplacesTheEarlier();
         itemsFromNoneTo12AreKept();
+        skillsAndDifficultiesOfItemsAreKept();
         textsAndExplanationAreLeftAsTheyAre();
         CHECK.end();
     }

@@ -172,6 +172,56 @@ public final class RefusedCallsTest {
         new Twins(CHECK, emptied).staysAs("reading " + text, x -> Advisors.read(x, text), x -> { });
     }
 
+    /** What was before a curriculum is read, or before a snapshot is restored, leaves no trace. */
+    private static void nothingIsLeftOfWhatWasDiscarded() {
+        Consumer<LearningAdvisor> read = x -> Advisors.read(x, "60;70=0");
+        Consumer<LearningAdvisor> readAndUsed = read.andThen(RefusedCallsTest::use);
+        Twins.areAlike(CHECK, "reading", x -> {
+            Advisors.read(x, "50;60=0;70=0&(1|0)");
+            use(x);
+            read.accept(x);
+        }, read);
+        Twins.areAlike(CHECK, "reading and use", x -> {
+            readAndUsed.accept(x);
+            readAndUsed.accept(x);
+        }, readAndUsed);
+        Twins.areAlike(CHECK, "restoring", x -> {
+            readAndUsed.accept(x);
+            x.save();
+            Advisors.read(x, "50;60=0;70=0&(1|0)");
+            use(x);
+            x.restore();
+        }, x -> {
+            readAndUsed.accept(x);
+            x.save();
+            x.restore();
+        });
+        Twins.areAlike(CHECK, "undoing", x -> {
+            read.accept(x);
+            Advisors.addItems(x, 12, 1);
+            Advisors.answer(x, 0, 2, 1);
+            Advisors.answer(x, 3, 4, 0);
+            x.nextDay(60);
+            for (int i = 0; i < 6; i++) {
+                x.undo();
+            }
+        }, x -> {
+            read.accept(x);
+            Advisors.addItems(x, 12, 1);
+        });
+    }
+
+    private static void use(LearningAdvisor x) {
+        Advisors.addItems(x, 6, 1);
+        Advisors.addItems(x, 6, 0);
+        Advisors.answer(x, 0, 5, 0);
+        Advisors.answer(x, 6, 9, 1);
+        x.nextDay(40);
+        Advisors.answer(x, 4, 7, 1);
+        x.nextDay(3);
+        Advisors.answer(x, 3, 11, 0);
+    }
+
     private static void questionsChangeNothing() {
         RICH.nothingChanges("path(11)", x -> x.path(11), NONE);
         RICH.nothingChanges("path(0)", x -> x.path(0), 2);
@@ -197,6 +247,7 @@ public final class RefusedCallsTest {
         anAnsweredItemIsNotAnsweredAgain();
         whatIsNotThereIsNotBroughtBack();
         aWrongTextChangesNothingButTheText();
+        nothingIsLeftOfWhatWasDiscarded();
         questionsChangeNothing();
         CHECK.end();
     }

@@ -169,6 +169,21 @@ public final class TextBoundsTest {
         reads("7;7=(0);7=((((((1", -115);
     }
 
+    /** An or of ands of ors, on each of the levels that parentheses can make. */
+    private static void theDeepestExpressionIsWhole() {
+        String deep = "1|0&(1|0&(1|0&(1|0&(1|0&(1|0&2)))))";
+        LearningAdvisor x = Advisors.withItems("1;99;60;50=" + deep);
+        CHECK.due("skills of the deepest expression", x.skill(3, 7), 7);
+        CHECK.due("not fulfilled", x.skill(3, 6), 0);
+        CHECK.due("write()", x.write(), 11 + deep.length());
+        CHECK.due("written", Advisors.written(x), "1;99;60;50=" + deep);
+        x.answer(2, 1);
+        CHECK.due("fulfilled by its deepest part", x.skill(3, 6), 1);
+        LearningAdvisor y = Advisors.withItems("1;99;60;60=0&(0&(0&(0&(0&(0&2|1)|1)|1)|1)|1)|1");
+        CHECK.due("explain(3)", y.explain(3), 2);
+        CHECK.due("blocked by its deepest part", y.explanation(1, 1), 2);
+    }
+
     /** Of all characters, only those that are told can continue; each other one is the first that cannot. */
     private static void onlyTheseContinue(String before, String allowed) {
         int here = -100 - before.length();
@@ -330,6 +345,7 @@ public final class TextBoundsTest {
         aPrerequisiteHasLowerNumbersOnly();
         parenthesesAreNestedAtMost5Deep();
         closedParenthesesAreNotNested();
+        theDeepestExpressionIsWhole();
         theFirstCharacterThatCannotContinueIsTold();
         aTextThatEndsTooEarlyIsToldByItsLength();
         errorOffsetsReachFrom0To80();

@@ -41,36 +41,35 @@ final class Twins {
 
     /** The call answers what is due, and nothing changes. */
     void nothingChanges(String name, ToIntFunction<LearningAdvisor> call, int want) {
-        check.due(name, call.applyAsInt(inState()), want);
-        staysAs(name, x -> call.applyAsInt(x), x -> { });
+        LearningAdvisor x = new LearningAdvisor();
+        state.accept(x);
+        check.due(name, call.applyAsInt(x), want);
+        staysAs(name, call::applyAsInt, unchanged -> { });
     }
 
     /** One call leaves the advisor as the other call does. */
     void staysAs(String name, Consumer<LearningAdvisor> call, Consumer<LearningAdvisor> other) {
+        areAlike(check, name, state.andThen(call), state.andThen(other));
+    }
+
+    /** A new advisor is the same after the calls of one way as after those of the other way. */
+    static void areAlike(Check check, String name, Consumer<LearningAdvisor> way, Consumer<LearningAdvisor> other) {
         for (Consumer<LearningAdvisor> revealing : REVEALING) {
             for (int first = 0; first < QUESTIONS.size(); first += QUESTIONS_OF_A_PAIR) {
-                LearningAdvisor one = inState();
-                LearningAdvisor two = inState();
-                call.accept(one);
-                other.accept(two);
-                revealing.accept(one);
-                revealing.accept(two);
-                compare(name, one, two, first);
+                LearningAdvisor one = new LearningAdvisor();
+                LearningAdvisor two = new LearningAdvisor();
+                way.andThen(revealing).accept(one);
+                other.andThen(revealing).accept(two);
+                compare(check, name, one, two, first);
             }
         }
     }
 
-    private void compare(String name, LearningAdvisor one, LearningAdvisor two, int first) {
+    private static void compare(Check check, String name, LearningAdvisor one, LearningAdvisor two, int first) {
         int end = Math.min(first + QUESTIONS_OF_A_PAIR, QUESTIONS.size());
         for (Question question : QUESTIONS.subList(first, end)) {
             check.due(question.name + " after " + name, question.ask.applyAsInt(one), question.ask.applyAsInt(two));
         }
-    }
-
-    private LearningAdvisor inState() {
-        LearningAdvisor x = new LearningAdvisor();
-        state.accept(x);
-        return x;
     }
 
     private static void undoAll(LearningAdvisor x) {
