@@ -408,6 +408,18 @@ public final class AdviceBoundsTest {
         }
     }
 
+    /** Skill 0 is due and mastered: review would take it, but a path is for learning only. */
+    private static void aPathIsForLearningOnly() {
+        LearningAdvisor x = Advisors.withItems("40;60;60=1");
+        x.answer(0, 1);
+        x.nextDay(2);
+        CHECK.due("advise(3)", x.advise(3), 0);
+        int[] path = {1, 2, -1};
+        for (int index = 0; index < path.length; index++) {
+            CHECK.due("path(" + index + ")", x.path(index), path[index]);
+        }
+    }
+
     private static void whatIfIsCutOffAsAnAnswerIs() {
         LearningAdvisor x = Advisors.withTwelve("50;50=0", 1);
         Advisors.answerTimes(x, 1, 30);
@@ -575,6 +587,7 @@ public final class AdviceBoundsTest {
         anExplanationOfNoItemLeavesTheOneBefore();
         pathsAreAskedFrom0To11();
         aPathEndsWhenAllIsMastered();
+        aPathIsForLearningOnly();
         whatIfIsCutOffAsAnAnswerIs();
         whatIfHasItsErrorsInTheirOrder();
         plansHave1To30Days();

@@ -440,6 +440,32 @@ public final class LogBoundsTest {
         CHECK.due("append to the text", x.append('6', 77), 80);
     }
 
+    /** An object is used for at most 512 calls: the last of them is still answered as due. */
+    private static void allOf512CallsAreAnswered() {
+        LearningAdvisor x = new LearningAdvisor();
+        for (int call = 1; call < 512; call++) {
+            CHECK.due("nextDay(1)", x.nextDay(1), call);
+        }
+        CHECK.due("count(2), the 512th call", x.count(2), 511);
+        LearningAdvisor y = new LearningAdvisor();
+        for (int call = 0; call < 512; call += 2) {
+            CHECK.due("append", y.append('1' + call % 9, 1), 1);
+            CHECK.due("readCurriculum()", y.readCurriculum(), 1);
+        }
+        LearningAdvisor z = Advisors.withTwelve("99", 0);
+        for (int call = 15; call < 512; call++) {
+            CHECK.due("plan(30, 12, 0)", z.plan(30, 12, 0), 360);
+        }
+        LearningAdvisor v = new LearningAdvisor();
+        v.addItem(0, 0);
+        for (int call = 1; call + 4 <= 512; call += 4) {
+            CHECK.due("answer(0, 1)", v.answer(0, 1), 0);
+            CHECK.due("nextDay(60)", v.nextDay(60), 60);
+            CHECK.due("undo()", v.undo(), 1);
+            CHECK.due("undo()", v.undo(), 0);
+        }
+    }
+
     public static void main(String[] args) {
         theLogIsEmptyAtFirst();
         eachDayAndEachAnswerIsAnEntry();
@@ -465,6 +491,7 @@ public final class LogBoundsTest {
         itemsFromNoneTo12AreKept();
         skillsAndDifficultiesOfItemsAreKept();
         textsAndExplanationAreLeftAsTheyAre();
+        allOf512CallsAreAnswered();
         CHECK.end();
     }
 }
