@@ -443,6 +443,13 @@ public final class EvidenceBoundsTest {
         CHECK.due("count(4)", x.count(4), 3);
         x.undo();
         CHECK.due("count(4), undone", x.count(4), 2);
+        int[][] answers = {{1, 1, 1}, {0, 0, -1}, {1, 1, 1}};
+        int[] items = {0, 5, 11};
+        for (int i = 0; i < items.length; i++) {
+            CHECK.due("item(" + items[i] + ", 2)", x.item(items[i], 2), answers[i][0]);
+            CHECK.due("item(" + items[i] + ", 3)", x.item(items[i], 3), answers[i][1]);
+            CHECK.due("item(" + items[i] + ", 4)", x.item(items[i], 4), answers[i][2]);
+        }
     }
 
     private static void answersThatWereUndoneDoNotCount() {

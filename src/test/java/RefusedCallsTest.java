@@ -105,6 +105,14 @@ public final class RefusedCallsTest {
         refuses(t, "explain(?)", NONE, (x, a) -> x.explain(a), -1, items, 12, LEAST, GREATEST);
         refuses(t, "explanation(?, 0)", NONE, (x, a) -> x.explanation(a, 0), -1, 11, LEAST, GREATEST);
         refuses(t, "replayed(?, 0)", NONE, (x, a) -> x.replayed(a, 0), -1, skills, 10, LEAST, GREATEST);
+        refuses(t, "explanation(?, 2)", NONE, (x, a) -> x.explanation(a, 2), -1, 11, LEAST, GREATEST);
+        refuses(t, "logEntry(?, 2)", NONE, (x, a) -> x.logEntry(a, 2), -1, 60, LEAST, GREATEST);
+        refuses(t, "item(?, 5)", NONE, (x, a) -> x.item(a, 5), -1, items, 12);
+        refuses(t, "mastery(?, 2)", NONE, (x, a) -> x.mastery(a, 2), -1, skills, 10);
+        refuses(t, "skill(?, 9)", NONE, (x, a) -> x.skill(a, 9), -1, skills, 10);
+        refuses(t, "chance(?, 4)", NONE, (x, a) -> x.chance(a, 4), -1, items, 12);
+        refuses(t, "account(?, 4)", NONE, (x, a) -> x.account(a, 4), -1, skills, 10);
+        refuses(t, "replayed(?, 2)", NONE, (x, a) -> x.replayed(a, 2), -1, skills, 10);
         refuses(t, "logEntry(?, 0)", NONE, (x, a) -> x.logEntry(a, 0), -1, 60, LEAST, GREATEST);
         refuses(t, "written(?)", NONE, (x, a) -> x.written(a), -1, 80, LEAST, GREATEST);
     }
